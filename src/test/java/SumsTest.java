@@ -135,6 +135,13 @@ public final class SumsTest {
             pier.sell(pier.land(0, 0, 0, 1 + limit % 5, true));
             checkBits("bits after a sale at " + limit, pier);
         }
+        Fishpier half = pierWithBuyer(0);
+        half.sell(half.land(0, 0, 0, 2, true));
+        half.setClock(1, 1, 1);
+        half.setLimit(0, 0, 1);
+        half.sell(half.land(0, 0, 0, 2, true));
+        CHECKS.is("mean of a half", 0.5, half.meanPrice());
+        checkBits("bits of a half", half);
         Fishpier other = pierWithBuyer(9999);
         other.setClock(9999, 1, 9999);
         other.sell(other.land(0, 0, 0, 1, true));

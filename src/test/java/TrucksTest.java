@@ -240,15 +240,15 @@ public final class TrucksTest {
     private static void freshFishCostsNone() {
         Fishpier pier = pierWithSoldLots(1000, 1000);
         pier.addTruck(17, 9999, false);
-        pier.addTruck(40, 9999, false);
+        pier.addTruck(71, 9999, false);
         pier.load(0, 0);
-        pier.ice(1, 999);
-        pier.ice(1, 999);
-        pier.ice(1, 999);
-        pier.ice(1, 999);
+        for (int times = 0; times < 8; times++) {
+            pier.ice(1, 999);
+        }
         pier.load(1, 1);
-        tick(pier, 40);
+        tick(pier, 71);
         CHECKS.is("freshness is above 70", true, pier.fresh(0) > 70.0f && pier.fresh(1) > 70.0f);
+        CHECKS.is("freshness is hardly above 70", true, pier.fresh(1) < 70.1f);
         CHECKS.is("nothing goes back", 50000, pier.paidFor(0));
         CHECKS.is("ice saves the money", 50000, pier.paidFor(1));
         CHECKS.is("all is income", 100000L, pier.income());
