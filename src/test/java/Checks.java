@@ -6,6 +6,7 @@ final class Checks {
     }
 
     private final String name;
+    private String where = "";
     private int made = 0;
     private int failed = 0;
 
@@ -49,11 +50,31 @@ final class Checks {
         count(due.getName().equals(got), what, due.getName(), got);
     }
 
-    /** The call throws exactly this exception and the pier is then as it was before. */
+    /** The call throws exactly this exception and the pier is then as it was before, also inside. */
     void failsAndKeeps(String what, Fishpier pier, Class<? extends RuntimeException> due, Call call) {
         String before = Snapshot.of(pier);
+        String insideBefore = Snapshot.inside(pier);
         fails(what, due, call);
-        is(what + " changes nothing", before, Snapshot.of(pier));
+        is(what + " changes nothing inside", insideBefore, Snapshot.inside(pier));
+        is(what + " changes no answer", before, Snapshot.of(pier));
+    }
+
+    /** The call changes nothing, whatever it answers. */
+    void keeps(String what, Fishpier pier, Call call) {
+        String before = Snapshot.inside(pier);
+        call.run();
+        is(what + " changes nothing", before, Snapshot.inside(pier));
+    }
+
+    /** Runs a test and writes this before each of its checks that fails; an exception of the test is a failure. */
+    void during(String title, Call test) {
+        where = title + ": ";
+        try {
+            test.run();
+        } catch (RuntimeException thrown) {
+            count(false, "the test itself", "no exception", thrown.toString());
+        }
+        where = "";
     }
 
     void end() {
@@ -67,7 +88,7 @@ final class Checks {
         made++;
         if (!isRight) {
             failed++;
-            System.out.println(name + ": " + what + ": due is " + due + ", answered " + got);
+            System.out.println(name + ": " + where + what + ": due is " + due + ", answered " + got);
         }
     }
 }

@@ -1,5 +1,4 @@
 import java.util.ArrayList;
-import java.util.Comparator;
 import java.util.HashMap;
 import java.util.List;
 import java.util.Map;
@@ -253,21 +252,23 @@ public final class DocPier {
         return (int) ((double) (limit * (100 + 10 * wanted.size)) / 100.0 * (double) wanted.fresh / 100.0);
     }
 
-    /** The price and the buyer, the buyer counted from 0; both are found price by price, buyer by buyer. */
+    /** The price and the buyer, both found price by price, buyer by buyer. */
     private Optional<int[]> sale(int lot) {
         need(needLot(lot).state == 'f', new IllegalStateException());
+        int[] offers = new int[budgets.size()];
+        for (int buyer = 0; buyer < offers.length; buyer++) {
+            offers[buyer] = offer(buyer, lot);
+        }
         for (int shown = start; shown >= reserve; shown -= step) {
-            int price = shown;
-            List<Integer> takers = new ArrayList<>();
-            for (int buyer = 0; buyer < budgets.size(); buyer++) {
-                if (offer(buyer, lot) >= price && budgets.get(buyer) >= price * lots.get(lot).weight) {
-                    takers.add(buyer);
+            int best = -1;
+            for (int buyer = 0; buyer < offers.length; buyer++) {
+                boolean takes = offers[buyer] >= shown && budgets.get(buyer) >= shown * lots.get(lot).weight;
+                if (takes && (best < 0 || offers[buyer] > offers[best])) {
+                    best = buyer;
                 }
             }
-            Optional<Integer> best = takers.stream().max(Comparator.<Integer>comparingInt(buyer -> offer(buyer, lot))
-                    .thenComparing(Comparator.reverseOrder()));
-            if (best.isPresent()) {
-                return Optional.of(new int[] {price, best.get()});
+            if (best >= 0) {
+                return Optional.of(new int[] {shown, best});
             }
         }
         return Optional.empty();

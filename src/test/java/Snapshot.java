@@ -1,7 +1,16 @@
+import java.lang.reflect.Array;
+import java.lang.reflect.Field;
 import java.lang.reflect.InvocationTargetException;
 import java.lang.reflect.Method;
+import java.lang.reflect.Modifier;
+import java.util.HashMap;
+import java.util.IdentityHashMap;
+import java.util.Map;
 
-/** The answers of every asking call of a pier, or of a model with the same face, as one text. */
+/**
+ * What a pier, or a model with the same face, is at a moment, as one text: the answers of every asking call,
+ * or what its fields hold.
+ */
 final class Snapshot {
     private static final Object[][] NUMBERED = {
         {"weight", 21}, {"stateOf", 21}, {"fresh", 21}, {"freshBits", 21}, {"iceOn", 21}, {"iceLasts", 21},
@@ -13,6 +22,9 @@ final class Snapshot {
     private static final String[] PLAIN = {
         "time", "beyond", "income", "incomeByLots", "spoiled", "soldShare", "meanPrice", "meanBits", "isSound",
     };
+
+    /** Looking a method up is dear, and the runs ask for the same ones again and again. */
+    private static final Map<String, Method> METHODS = new HashMap<>();
 
     private Snapshot() {
     }
@@ -40,17 +52,66 @@ final class Snapshot {
 
     /** What the call answers, or the name of what it throws. */
     static String answer(Object pier, String name, Object... arguments) {
-        Class<?>[] kinds = new Class<?>[arguments.length];
-        for (int i = 0; i < kinds.length; i++) {
-            kinds[i] = arguments[i] instanceof Boolean ? boolean.class : int.class;
-        }
         try {
-            Method method = pier.getClass().getDeclaredMethod(name, kinds);
-            return String.valueOf(method.invoke(pier, arguments));
+            return String.valueOf(methodOf(pier.getClass(), name, arguments).invoke(pier, arguments));
         } catch (InvocationTargetException thrown) {
             return "throws." + thrown.getCause().getClass().getName();
         } catch (ReflectiveOperationException missing) {
             throw new AssertionError(name, missing);
+        }
+    }
+
+    /** What the fields hold, those of the objects behind them too; also what no asking call tells, as the clock. */
+    static String inside(Object pier) {
+        StringBuilder text = new StringBuilder();
+        noteInside(text, pier, new IdentityHashMap<>());
+        return text.toString();
+    }
+
+    private static Method methodOf(Class<?> owner, String name, Object... arguments) throws NoSuchMethodException {
+        String key = owner.getName() + "." + name;
+        Method method = METHODS.get(key);
+        if (method == null) {
+            Class<?>[] kinds = new Class<?>[arguments.length];
+            for (int i = 0; i < kinds.length; i++) {
+                kinds[i] = arguments[i] instanceof Boolean ? boolean.class : int.class;
+            }
+            method = owner.getDeclaredMethod(name, kinds);
+            METHODS.put(key, method);
+        }
+        return method;
+    }
+
+    private static void noteInside(StringBuilder text, Object held, Map<Object, Integer> seen) {
+        if (held == null || held instanceof Number || held instanceof Character || held instanceof Boolean
+                || held instanceof String) {
+            text.append(held);
+        } else if (seen.containsKey(held)) {
+            text.append('#').append(seen.get(held));
+        } else {
+            seen.put(held, seen.size());
+            text.append('{');
+            if (held.getClass().isArray()) {
+                for (int i = 0; i < Array.getLength(held); i++) {
+                    noteInside(text.append(' '), Array.get(held, i), seen);
+                }
+            } else {
+                noteFields(text, held, seen);
+            }
+            text.append('}');
+        }
+    }
+
+    private static void noteFields(StringBuilder text, Object held, Map<Object, Integer> seen) {
+        try {
+            for (Field field : held.getClass().getDeclaredFields()) {
+                if (!Modifier.isStatic(field.getModifiers())) {
+                    field.setAccessible(true);
+                    noteInside(text.append(' ').append(field.getName()).append('='), field.get(held), seen);
+                }
+            }
+        } catch (ReflectiveOperationException closed) {
+            throw new AssertionError(held.getClass().getName(), closed);
         }
     }
 
