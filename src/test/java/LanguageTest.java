@@ -33,7 +33,7 @@ public final class LanguageTest {
     public static void main(String[] args) throws IOException {
         faceIsTheDocuments();
         nothingElseIsOpen();
-        staticFieldsAreConstants();
+        classesAndFieldsKeepToTheLanguage();
         sourceKeepsToTheLanguage();
         methodsStayShort();
         CHECKS.end();
@@ -87,9 +87,17 @@ public final class LanguageTest {
         CHECKS.is("without parameters", 0, constructors[0].getParameterCount());
     }
 
-    private static void staticFieldsAreConstants() {
+    private static void classesAndFieldsKeepToTheLanguage() {
         List<Class<?>> all = new ArrayList<>(Arrays.asList(Fishpier.class.getDeclaredClasses()));
         CHECKS.is("at most twelve classes", true, all.size() <= 11);
+        for (Class<?> inside : all) {
+            int open = inside.getModifiers() & (Modifier.PUBLIC | Modifier.PROTECTED);
+            CHECKS.is(inside + " is not open", 0, open);
+            CHECKS.is(inside + " is static", true, Modifier.isStatic(inside.getModifiers()));
+            for (Constructor<?> constructor : inside.getDeclaredConstructors()) {
+                CHECKS.is(constructor + " has at most seven parameters", true, constructor.getParameterCount() <= 7);
+            }
+        }
         all.add(Fishpier.class);
         for (Class<?> owner : all) {
             int fields = 0;
@@ -133,18 +141,26 @@ public final class LanguageTest {
     }
 
     private static void methodsStayShort() throws IOException {
+        List<String> lines = Files.readAllLines(SOURCE);
+        methodsAtDepthStayShort(lines, "    ", "(public|private) .*\\(.*");
+        methodsAtDepthStayShort(lines, "        ", "(\\w[\\w\\[\\]]* )*\\w+\\(.*\\{");
+    }
+
+    private static void methodsAtDepthStayShort(List<String> lines, String indent, String head) {
         int begin = 0;
-        int number = 0;
-        for (String line : Files.readAllLines(SOURCE)) {
-            number++;
-            if (line.matches(" {4}(public|private) .*\\(.*")) {
+        int found = 0;
+        for (int number = 1; number <= lines.size(); number++) {
+            String line = lines.get(number - 1);
+            if (line.matches(indent + head)) {
                 begin = number;
+                found++;
             }
-            if (line.equals("    }")) {
+            if (line.equals(indent + "}")) {
                 CHECKS.is("the method that ends in line " + number + " is short", true,
                         begin == 0 || number - begin <= 60);
                 begin = 0;
             }
         }
+        CHECKS.is("methods are found at the depth " + indent.length(), true, found > 10);
     }
 }
